@@ -274,7 +274,7 @@ public final class StandStill {
         if (!now.row.stands(stander)) {
             return fails(STATE);
         }
-        lookAhead(0);
+        ahead.copyFrom(now.row);
         int lasting = ahead.lastsFor(stander);
         return lasting == NEVER ? fails(NONE) : lasting;
     }
@@ -326,7 +326,7 @@ public final class StandStill {
             if (!now.row.stands(other)) {
                 continue;
             }
-            lookAhead(0);
+            ahead.copyFrom(now.row);
             ahead.changePosts(stander, other);
             int lasting = ahead.lastsFor(stander);
             if (lasting > longest) {
@@ -364,7 +364,7 @@ public final class StandStill {
             if (!now.row.stands(i)) {
                 continue;
             }
-            lookAhead(0);
+            ahead.copyFrom(now.row);
             ahead.pokeOne(i);
             if ((all & ~ahead.bits()) == set) {
                 found |= 1 << i;
@@ -502,7 +502,7 @@ public final class StandStill {
         if (isMissing(sheet)) {
             return fails(NONE);
         }
-        lookAhead(0);
+        ahead.copyFrom(now.row);
         int right = 0;
         while (right < sizeOf[sheet] && sheets[sheet][right] == ahead.howMany()) {
             ahead.passMinute();
@@ -646,7 +646,7 @@ public final class StandStill {
     }
 
     private boolean isEmptiedBy(int set) {
-        lookAhead(0);
+        ahead.copyFrom(now.row);
         for (int i = 0; i < NINE; i++) {
             if ((set >> i & 1) == 1 && ahead.stands(i)) {
                 ahead.pokeOne(i);

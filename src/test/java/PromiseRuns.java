@@ -119,6 +119,20 @@ public final class PromiseRuns {
         due(x.standerIs(3, 5), 3);
         due(Due.text(x, 0, "0|1&0"), 1);
         due(x.standerIs(3, 5), 0);
+        due(Due.text(x, 0, "(3<2)+(2<2)*2+(2<3)*4"), 1);
+        due(x.standerIs(3, 5), 4);
+        due(Due.text(x, 0, "(3>2)+(2>2)*2+(2>3)*4"), 1);
+        due(x.standerIs(3, 5), 1);
+        due(Due.text(x, 0, "(0&1)+(1&0)*2+(2&1)*4+(0&0)*8"), 1);
+        due(x.standerIs(3, 5), 4);
+        due(Due.text(x, 0, "(0|1)+(7|0)*2+(2|2)*4+(0|0)*8"), 1);
+        due(x.standerIs(3, 5), 7);
+        due(Due.text(x, 0, "(0=1)+(7=7)*2"), 1);
+        due(x.standerIs(3, 5), 2);
+        due(Due.text(x, 0, "!(2-3)+!0*4"), 1);
+        due(x.standerIs(3, 5), 4);
+        due(Due.text(x, 0, "9+(0-7)/2+(0-7)%4"), 1);
+        due(x.standerIs(3, 5), 3);
         due(Due.text(x, 0, "1+1<3*1"), 1);
         due(x.standerIs(3, 5), 1);
         due(Due.text(x, 0, "9999*9999*9999>0"), 1);
@@ -545,6 +559,8 @@ public final class PromiseRuns {
         due(x.lastOne(), 4);
         x.patience(4, 59);
         due(x.lastOne(), 6);
+        x.minutes(2);
+        due(x.lastOne(), 6);
         x.stander(4, 29);
         x.sun(0);
         due(x.lastOne(), 4);
@@ -552,10 +568,14 @@ public final class PromiseRuns {
         due(x.lastOne(), 1);
         x.poke(1);
         due(x.lastOne(), 4);
+        x.stander(0, 29);
+        due(x.lastOne(), 0);
         for (int i = 0; i < 9; i++) {
             x.poke(i);
         }
         due(x.lastOne(), N);
+        x.again(0, 1);
+        due(x.lastOne(), 0);
     }
 
     private static void promise22() {
@@ -599,6 +619,29 @@ public final class PromiseRuns {
         x.poke(4);
         due(x.round(4, 1, 0), S);
         due(x.round(4, 4, 0), B);
+    }
+
+    /** By a TEXT that looks at PATIENCE only one order of FLIES does it, with the greatest POST ahead. */
+    private static void roundsInOrder() {
+        StandStill x = start("promise 22, two in order");
+        x.stander(3, 10);
+        x.patience(3, 30);
+        x.patience(8, 10);
+        x.patience(4, 10);
+        x.patience(0, 10);
+        due(Due.text(x, 1, "(p=30)*(d=5)*20+(p=10)*(d=3)*10"), 1);
+        due(x.round(3, 1, 0), N);
+        due(x.round(3, 2, 0), 2);
+        due(x.round(3, 2, 1), 91);
+        due(x.round(3, 3, 1), 291);
+        about = "promise 22, three in order";
+        due(Due.text(x, 1, "(p=30)*(d=5)*20+(p=10)*(d=1)*5+(p=5)*(d=3)*5"), 1);
+        due(x.round(3, 2, 0), N);
+        due(x.round(3, 3, 0), 3);
+        due(x.round(3, 3, 1), 951);
+        due(Due.text(x, 1, "(p=30)*(d=5)*20+(p=10)*(d=3)*5+(p=5)*(d=1)*5"), 1);
+        due(x.round(3, 3, 1), 915);
+        due(x.count(2), 9);
     }
 
     private static void promise23() {
@@ -666,6 +709,8 @@ public final class PromiseRuns {
         due(x.whose(-1), B);
         due(x.whose(512), B);
         due(x.whose(256), 256);
+        due(x.whose(1), 1);
+        due(x.whose(511), 0);
         x.patience(3, 8);
         due(x.whose(12), 4);
         due(x.whose(24), 16);
@@ -679,6 +724,11 @@ public final class PromiseRuns {
         x.poke(3);
         due(x.whose(24), 0);
         due(x.whose(4), 4);
+        x = start("promise 25, the whole side");
+        for (int i = 0; i < 9; i++) {
+            x.patience(i, 8);
+        }
+        due(x.whose(511), 511);
     }
 
     private static void putAll(StandStill x, int sheet, int... numbers) {
@@ -814,6 +864,10 @@ public final class PromiseRuns {
         due(x.flies(0), 24);
         x.put(0, 23, 9);
         due(x.flies(0), 23);
+        due(x.sheet(0, 16, 24), 1);
+        due(x.flies(0), 24);
+        x.put(0, 0, 9);
+        due(x.flies(0), 0);
         due(x.sheet(0, 16, 24), 1);
         due(x.flies(0), 24);
         due(x.sheet(0, 32, 0), 1);
@@ -985,13 +1039,33 @@ public final class PromiseRuns {
         // the IMAGE stays, and what comes later doesn't touch it
         due(x.restore(), 2);
         due(x.count(4), 2);
+        due(x.text(0), -12);
         due(x.standerIs(1, 5), 9);
         due(x.standerIs(8, 4), -1);
+        due(x.restore(), 2);
         x.minutes(1);
         due(x.image(), 2);
         due(x.restore(), 3);
         due(x.image(), 3);
         due(x.told(2), 1);
+    }
+
+    private static void imageOfTapeAndWaiting() {
+        StandStill x = start("promise 35, THE TAPE and what waits");
+        x.stander(0, 60);
+        Due.feed(x, "7+");
+        x.tell(30);
+        x.tell(5);
+        due(x.image(), 1);
+        due(x.check(), 2);
+        x.tell(4);
+        due(Due.text(x, 0, "8"), 1);
+        Due.feed(x, "xx");
+        due(x.restore(), 0);
+        due(x.standerIs(0, 5), 2);
+        due(x.check(), 2);
+        due(Due.text(x, 0, "1"), 1);
+        due(x.standerIs(0, 5), 8);
     }
 
     private static void promise36() {
@@ -1105,6 +1179,7 @@ public final class PromiseRuns {
         promise20();
         promise21();
         promise22();
+        roundsInOrder();
         promise23();
         promise24();
         promise25();
@@ -1117,6 +1192,7 @@ public final class PromiseRuns {
         promise32();
         promise33();
         promises34And35();
+        imageOfTapeAndWaiting();
         promise36();
         promise37();
         promise38();
